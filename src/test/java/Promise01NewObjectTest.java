@@ -3,6 +3,8 @@ public final class Promise01NewObjectTest {
     public static void main(String[] args) {
         Check check = new Check();
         FuzzyFinder x = new FuzzyFinder();
+        check.due("from() before a find", x.from(), -1);
+        check.due("to() before a find", x.to(), -1);
         check.due("nodes()", x.nodes(), 0);
         check.due("cost(0, 0)", x.cost(0, 0), -1);
         check.due("find(true)", x.find(true), -1);

@@ -50,6 +50,9 @@ public final class Promise03CompileTest {
         fault("a<123", 4);
         fault("a<1 2".replace(" ", "!"), 3);
         fault("a<12<", 5);
+        fault("a<1*5", 4);
+        fault("(a<1)5", 5);
+        fault("a<1|5", 4);
         fault("a5", 1);
         fault("a*5", 2);
         fault("aB", 1);
@@ -102,6 +105,8 @@ public final class Promise03CompileTest {
         CHECK.due("a new one", Check.compile(x, "c"), -1);
         CHECK.due("nodes()", x.nodes(), 1);
         CHECK.due("cost(1, 2)", x.cost(1, 2), 1);
+        CHECK.due("one as long", Check.compile(x, "b"), -1);
+        CHECK.due("cost(1, 2)", x.cost(1, 2), 0);
 
         FuzzyFinder y = new FuzzyFinder();
         CHECK.due("a fault", Check.compile(y, "c("), 2);

@@ -8,6 +8,7 @@ public final class Promise09CostTest {
         choices();
         suffixes();
         limits();
+        piecesInside();
         noPieces();
         CHECK.end();
     }
@@ -38,6 +39,8 @@ public final class Promise09CostTest {
         cost("[^bc]", "bcb", 8);
         cost("[^a]", "a", 4);
         cost("[^abcdefghijklmnopqrstuvwxyz]", "q", 4);
+        cost("[a][b]", "aa", 4);
+        cost("[^a][b]", "bc", 4);
         FuzzyFinder x = Check.finder("a", "bb");
         x.weights(1, 1, 9);
         CHECK.due("missing and added are less than wrong", x.cost(0, 2), 3);
@@ -118,6 +121,24 @@ public final class Promise09CostTest {
         cost("aa<0", "b", -1);
         cost("(ab)<0c", "abc", 0);
         cost("(a|b<0)c", "xc", 4);
+    }
+
+    private static void piecesInside() {
+        FuzzyFinder x = Check.finder("ab", "bbbbbb");
+        CHECK.due("cost(4, 4)", x.cost(4, 4), 2);
+        Check.compile(x, "a?");
+        CHECK.due("a? on [4, 4)", x.cost(4, 4), 0);
+        x.weights(1, 2, 9);
+        CHECK.due("a? on [2, 5)", x.cost(2, 5), 3);
+        Check.compile(x, "a*");
+        CHECK.due("a* on [2, 5)", x.cost(2, 5), 3);
+        CHECK.due("a* on [6, 6)", x.cost(6, 6), 0);
+        Check.compile(x, "a+");
+        CHECK.due("a+ on [2, 5)", x.cost(2, 5), 5);
+        Check.compile(x, "a");
+        CHECK.due("a on [2, 5)", x.cost(2, 5), 5);
+        CHECK.due("a on [3, 3)", x.cost(3, 3), 2);
+        CHECK.due("a on [5, 6)", x.cost(5, 6), 3);
     }
 
     private static void noPieces() {

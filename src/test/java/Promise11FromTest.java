@@ -2,6 +2,7 @@
 public final class Promise11FromTest {
     public static void main(String[] args) {
         Check check = new Check();
+        check.due("from() of a new object", new FuzzyFinder().from(), -1);
         FuzzyFinder x = Check.finder("b", "abc");
         check.due("before a find", x.from(), -1);
         x.find(true);

@@ -2,6 +2,7 @@
 public final class Promise12ToTest {
     public static void main(String[] args) {
         Check check = new Check();
+        check.due("to() of a new object", new FuzzyFinder().to(), -1);
         FuzzyFinder x = Check.finder("b", "abc");
         check.due("before a find", x.to(), -1);
         x.find(true);

@@ -20,7 +20,21 @@ public final class Promise18RankTest {
         order(z, false, 4, 2, 1, 3, 0);
 
         order(new FuzzyFinder(), true);
+        fullDictionary();
         CHECK.end();
+    }
+
+    private static void fullDictionary() {
+        String[] words = new String[20];
+        int[] backwards = new int[20];
+        for (int n = 0; n < 20; n++) {
+            words[n] = "w" + (char) ('t' - n);
+            backwards[n] = 19 - n;
+        }
+        FuzzyFinder full = Check.dictionary(words);
+        order(full, true, backwards);
+        CHECK.due("near(2, false)", full.near(2, false), 20);
+        CHECK.due("near(1, false)", full.near(1, false), 0);
     }
 
     private static void order(FuzzyFinder x, boolean exchange, int... words) {
