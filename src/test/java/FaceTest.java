@@ -1,4 +1,5 @@
 import java.io.IOException;
+import java.io.UncheckedIOException;
 import java.lang.reflect.Constructor;
 import java.lang.reflect.Field;
 import java.lang.reflect.Member;
@@ -7,7 +8,9 @@ import java.lang.reflect.Modifier;
 import java.nio.charset.StandardCharsets;
 import java.nio.file.Files;
 import java.nio.file.Path;
+import java.util.ArrayList;
 import java.util.Arrays;
+import java.util.List;
 import java.util.Set;
 import java.util.TreeSet;
 
@@ -25,58 +28,101 @@ public final class FaceTest {
         "assert ", "instanceof", "Exact", "while ", "package ", "protected ",
     };
 
-    private static final Check CHECK = new Check();
+    public static void main(String[] args) {
+        Sentences told = new Sentences("the face");
+        told.test("the class is public and final", FaceTest::isPublicAndFinal);
+        told.test("constants, constructor and methods are the document's", FaceTest::isTheDocuments);
+        told.test("classes inside are private and static", FaceTest::hidesItsClasses);
+        told.test("no private method bears the name of a public one", FaceTest::namesAreFree);
+        told.test("the source holds nothing that LANGUAGE.md forbids", FaceTest::keepsToTheLanguage);
+        told.end();
+    }
 
-    public static void main(String[] args) throws Exception {
-        CHECK.due("the class is public and final", FuzzyFinder.class.getModifiers(), Modifier.PUBLIC | Modifier.FINAL);
+    private static void isPublicAndFinal(Check check) {
+        check.due("modifiers", FuzzyFinder.class.getModifiers(), Modifier.PUBLIC | Modifier.FINAL);
+    }
+
+    private static void isTheDocuments(Check check) {
         Set<String> face = new TreeSet<>();
         for (Field field : FuzzyFinder.class.getDeclaredFields()) {
-            if (isOfFace(field)) {
-                face.add(field.getType() + " " + field.getName() + " = " + field.get(null));
-                CHECK.due(field + " is a constant", Modifier.isStatic(field.getModifiers()), true);
-                CHECK.due(field + " is final", Modifier.isFinal(field.getModifiers()), true);
+            if (isOfFace(check, field)) {
+                face.add(field.getType() + " " + field.getName() + " = " + valueOf(field));
+                check.due(field + " is final", Modifier.isFinal(field.getModifiers()), true);
             }
         }
         for (Constructor<?> constructor : FuzzyFinder.class.getDeclaredConstructors()) {
-            if (isOfFace(constructor)) {
+            if (isOfFace(check, constructor)) {
                 face.add("FuzzyFinder" + parametersOf(constructor.getParameterTypes()));
             }
         }
         for (Method method : FuzzyFinder.class.getDeclaredMethods()) {
-            if (isOfFace(method)) {
+            if (isOfFace(check, method)) {
                 face.add(method.getReturnType() + " " + method.getName() + parametersOf(method.getParameterTypes()));
             }
         }
         if (!face.equals(FACE)) {
-            System.out.println("the face is " + face);
+            check.fails("the face is " + face);
         }
-        CHECK.due("the face is the document's", face.equals(FACE), true);
+    }
+
+    private static void hidesItsClasses(Check check) {
         for (Class<?> inside : FuzzyFinder.class.getDeclaredClasses()) {
-            CHECK.due(inside + " is private", Modifier.isPrivate(inside.getModifiers()), true);
-            CHECK.due(inside + " is static", Modifier.isStatic(inside.getModifiers()), true);
+            check.due(inside + " is private", Modifier.isPrivate(inside.getModifiers()), true);
+            check.due(inside + " is static", Modifier.isStatic(inside.getModifiers()), true);
         }
-        checkSource();
-        CHECK.end();
+    }
+
+    private static void namesAreFree(Check check) {
+        Set<String> names = new TreeSet<>();
+        for (Method method : FuzzyFinder.class.getDeclaredMethods()) {
+            if (Modifier.isPublic(method.getModifiers())) {
+                names.add(method.getName());
+            }
+        }
+        List<Class<?>> classes = new ArrayList<>(List.of(FuzzyFinder.class.getDeclaredClasses()));
+        classes.add(FuzzyFinder.class);
+        for (Class<?> owner : classes) {
+            for (Method method : owner.getDeclaredMethods()) {
+                boolean isHidden = !Modifier.isPublic(method.getModifiers());
+                check.due(method + " has a name of its own", !isHidden || !names.contains(method.getName()), true);
+            }
+        }
     }
 
     /** Whether others can see it; such a member has to be public. */
-    private static boolean isOfFace(Member member) {
+    private static boolean isOfFace(Check check, Member member) {
         if (member.isSynthetic() || Modifier.isPrivate(member.getModifiers())) {
             return false;
         }
-        CHECK.due(member + " is public", Modifier.isPublic(member.getModifiers()), true);
+        check.due(member + " is public", Modifier.isPublic(member.getModifiers()), true);
         return true;
+    }
+
+    private static Object valueOf(Field field) {
+        try {
+            return Modifier.isStatic(field.getModifiers()) ? field.get(null) : "not static";
+        } catch (IllegalAccessException e) {
+            return "not to be seen";
+        }
     }
 
     private static String parametersOf(Class<?>[] types) {
         return Arrays.toString(types).replace('[', '(').replace(']', ')');
     }
 
-    private static void checkSource() throws IOException {
-        String source = Files.readString(Path.of("src/main/java/FuzzyFinder.java"), StandardCharsets.ISO_8859_1);
-        CHECK.due("signs beyond 127", source.chars().filter(c -> c > 127).count(), 0);
+    private static void keepsToTheLanguage(Check check) {
+        String source = source();
+        check.due("signs beyond 127", source.chars().filter(c -> c > 127).count(), 0);
         for (String words : FORBIDDEN) {
-            CHECK.due("the source holds " + words, source.contains(words), false);
+            check.due("the source holds " + words, source.contains(words), false);
+        }
+    }
+
+    private static String source() {
+        try {
+            return Files.readString(Path.of("src/main/java/FuzzyFinder.java"), StandardCharsets.ISO_8859_1);
+        } catch (IOException e) {
+            throw new UncheckedIOException(e);
         }
     }
 }

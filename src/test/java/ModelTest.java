@@ -6,23 +6,28 @@ public final class ModelTest {
     private static final int CALLS = 512;
     private static final String SIGNS = "aabbcd.[]^()()||*+?<0159";
 
-    private static final Check CHECK = new Check();
-
     public static void main(String[] args) {
+        Sentences told = new Sentences("model");
+        told.test("every answer of " + RUNS + " runs is the one that the model gives", ModelTest::playAll);
+        told.end();
+    }
+
+    private static void playAll(Check check) {
         for (int run = 0; run < RUNS; run++) {
-            new ModelTest(run).play();
+            new ModelTest(run, check).play();
         }
-        CHECK.end();
     }
 
     private final int run;
+    private final Check check;
     private final Random random;
     private final FuzzyFinder finder = new FuzzyFinder();
     private final Model model = new Model();
     private int calls = 0;
 
-    private ModelTest(int run) {
+    private ModelTest(int run, Check check) {
         this.run = run;
+        this.check = check;
         this.random = new Random(run);
     }
 
@@ -42,7 +47,7 @@ public final class ModelTest {
 
     private void due(String call, long got, long want) {
         calls++;
-        CHECK.due("run " + run + ", call " + calls + ": " + call, got, want);
+        check.due("run " + run + ", call " + calls + ": " + call, got, want);
     }
 
     private void due(String call, boolean got, boolean want) {

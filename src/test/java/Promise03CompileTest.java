@@ -1,135 +1,179 @@
 /** compile answers GOOD, TOO_LONG or the fault, and keeps the old pattern unless it is GOOD. */
 public final class Promise03CompileTest {
-    private static final Check CHECK = new Check();
-
     public static void main(String[] args) {
-        good("a", "z", ".", "[a]", "[^a]", "[az]", "[^zaz]", "(a)", "((((((a))))))", "ab", "a|b");
-        good("a*", "a+", "a?", "a<0", "a<00", "a<99", "a*+?<1*", "a<1b", "a<12b", "a<1<2", "a<1*");
-        good("(a|b)c|d", "a(b)(c)", "(a)<3", "[a]<3|.", "((((((a))))))((((((b))))))");
-
-        fault("", 0);
-        fault("*", 0);
-        fault("|", 0);
-        fault(")", 0);
-        fault("]", 0);
-        fault("A", 0);
-        fault("{", 0);
-        fault("`", 0);
-        fault("1", 0);
-        fault("a|", 2);
-        fault("a||b", 2);
-        fault("|a", 0);
-        fault("a|*", 2);
-        fault("()", 1);
-        fault("(", 1);
-        fault("(a", 2);
-        fault("(a|", 3);
-        fault("(a|)", 3);
-        fault("(|a)", 1);
-        fault("(*)", 1);
-        fault("a)", 1);
-        fault("(a))", 3);
-        fault("(((((((a)))))))", 6);
-        fault("((((((a))))))(((((((", 19);
-        fault("((((((", 6);
-        fault("[", 1);
-        fault("[]", 1);
-        fault("[a", 2);
-        fault("[^", 2);
-        fault("[^]", 2);
-        fault("[^^a]", 2);
-        fault("[a^]", 2);
-        fault("[a.]", 2);
-        fault("[A]", 1);
-        fault("[a[b]]", 2);
-        fault("a]", 1);
-        fault("a^", 1);
-        fault("a<", 2);
-        fault("a<b", 2);
-        fault("a<*", 2);
-        fault("a<123", 4);
-        fault("a<1 2".replace(" ", "!"), 3);
-        fault("a<12<", 5);
-        fault("a<1*5", 4);
-        fault("(a<1)5", 5);
-        fault("a<1|5", 4);
-        fault("a5", 1);
-        fault("a*5", 2);
-        fault("aB", 1);
-        fault("(a<", 3);
-        fault("(a<1", 4);
-        fault("a/", 1);
-        fault("a:", 1);
-        fault("a</", 2);
-        fault("a<:", 2);
-
-        tooLong();
-        keepsThePattern();
-        readsOnlyWhatIsNew();
-        CHECK.end();
+        Sentences told = new Sentences("promise 3");
+        told.test("Reads the characters that were typed since the last time", Promise03CompileTest::readsWhatIsNew);
+        told.test("which are none then", Promise03CompileTest::noneThen);
+        told.test("GOOD when they are an EXPRESSION", Promise03CompileTest::good);
+        told.test("of at most 24 nodes", Promise03CompileTest::mostNodes);
+        told.test("which is the pattern then", Promise03CompileTest::isThePattern);
+        told.test("TOO_LONG when it has more", Promise03CompileTest::tooLong);
+        told.test("otherwise their FAULT", Promise03CompileTest::fault);
+        told.test("after a FAULT the pattern stays what it was", Promise03CompileTest::keptAfterFault);
+        told.test("after TOO_LONG the pattern stays what it was", Promise03CompileTest::keptAfterTooLong);
+        told.test("if there was one", Promise03CompileTest::noneToKeep);
+        told.end();
     }
 
-    private static void good(String... expressions) {
-        for (String expression : expressions) {
-            CHECK.due("compile() of " + expression, Check.compile(new FuzzyFinder(), expression), -1);
+    private static void compile(Check check, FuzzyFinder x, String characters, int due) {
+        check.due("compile() of " + characters, Check.compile(x, characters), due);
+    }
+
+    private static void readsWhatIsNew(Check check) {
+        FuzzyFinder x = new FuzzyFinder();
+        compile(check, x, "((a", 3);
+        compile(check, x, ")", 0);
+        compile(check, x, "a<", 2);
+        compile(check, x, "1", 0);
+        compile(check, x, "a<1", -1);
+        compile(check, x, "2", 0);
+        compile(check, x, "[^a", 3);
+        compile(check, x, "[b]", -1);
+        Check.rewrite(x, "bc");
+        check.due("[b] on b", x.cost(0, 1), 0);
+        check.due("[b] on c", x.cost(1, 2), 1);
+        compile(check, x, "[^b]", -1);
+        compile(check, x, "[b", 2);
+        compile(check, x, "[c]", -1);
+        check.due("[c] on b", x.cost(0, 1), 1);
+        check.due("[c] on c", x.cost(1, 2), 0);
+        compile(check, x, "((((((", 6);
+        compile(check, x, "((((((a))))))", -1);
+        compile(check, x, "a|", 2);
+        compile(check, x, "b", -1);
+        check.due("nodes()", x.nodes(), 1);
+    }
+
+    private static void noneThen(Check check) {
+        FuzzyFinder x = new FuzzyFinder();
+        compile(check, x, "", 0);
+        compile(check, x, "", 0);
+        for (String characters : new String[] {"a", "a|", "c".repeat(20), "[" + "c".repeat(39)}) {
+            Check.compile(x, characters);
+            compile(check, x, "", 0);
+            compile(check, x, "b", -1);
+            for (int n = 1; n <= 41; n++) {
+                check.due("type number " + n + " after " + characters, x.type('('), n <= 40);
+            }
+            check.due("compile() of 40 (", x.compile(), 6);
         }
     }
 
-    private static void fault(String characters, int place) {
-        CHECK.due("compile() of " + characters, Check.compile(new FuzzyFinder(), characters), place);
+    private static void good(Check check) {
+        String[] all = {
+            "a", ".", "[a]", "[^a]", "(a)", "ab", "a|b", "a*", "a+", "a?", "a<0", "a<99", "(a|b)c|d",
+            "a(b)(c)", "(a)<3", "[a]<3|.", "((((((a))))))((((((b))))))", "a*+?<1*", "a<1b", "a<1<2",
+        };
+        for (String expression : all) {
+            compile(check, new FuzzyFinder(), expression, -1);
+        }
     }
 
-    private static void tooLong() {
-        CHECK.due("24 nodes", Check.compile(new FuzzyFinder(), "abcdefghijkl?"), -1);
-        CHECK.due("25 nodes", Check.compile(new FuzzyFinder(), "abcdefghijklm"), -2);
-        CHECK.due("24 nodes", Check.compile(new FuzzyFinder(), "a***********************"), -1);
-        CHECK.due("25 nodes", Check.compile(new FuzzyFinder(), "a************************"), -2);
-        CHECK.due("25 nodes", Check.compile(new FuzzyFinder(), "a|b|c|d|e|f|g|h|i|j|k|l|m"), -2);
-        CHECK.due("79 nodes", Check.compile(new FuzzyFinder(), "a".repeat(40)), -2);
-        CHECK.due("a fault behind 24 nodes", Check.compile(new FuzzyFinder(), "a".repeat(39) + "|"), 40);
-        CHECK.due("a fault behind 24 nodes", Check.compile(new FuzzyFinder(), "a".repeat(38) + ")a"), 38);
-        CHECK.due("a limit behind 24 nodes", Check.compile(new FuzzyFinder(), "a".repeat(37) + "<12"), -2);
-        CHECK.due("a bracket behind 24 nodes", Check.compile(new FuzzyFinder(), "a".repeat(30) + "(a|b)*"), -2);
+    /** What has one node more than 24 is too long, whichever kind of node it is. */
+    private static void mostNodes(Check check) {
+        String[] with23 = {
+            "abcdefghijkl", "a|b|c|d|e|f|g|h|i|j|k|l", "a" + "*".repeat(22), "a" + "<1".repeat(12) + "*?" + "+".repeat(8),
+            "(a)(b)(c)(d)(e)(f)(g)(h)ijkl", "[ab][cd][ef][gh][ij][kl][mn][op]qrst", ".a.b.c.d.e.|f",
+        };
+        for (String expression : with23) {
+            FuzzyFinder x = new FuzzyFinder();
+            compile(check, x, expression, -1);
+            check.due("nodes() of " + expression, x.nodes(), 23);
+            compile(check, x, expression + "?", -1);
+            check.due("nodes() of " + expression + "?", x.nodes(), 24);
+            compile(check, x, expression + "??", -2);
+            compile(check, x, expression + "z", -2);
+            compile(check, x, expression + "|z", -2);
+            check.due("nodes()", x.nodes(), 24);
+        }
     }
 
-    private static void keepsThePattern() {
+    private static void isThePattern(Check check) {
+        FuzzyFinder x = Check.finder("", "ab");
+        compile(check, x, "a", -1);
+        check.due("cost(0, 1)", x.cost(0, 1), 0);
+        check.due("cost(1, 2)", x.cost(1, 2), 1);
+        compile(check, x, "b", -1);
+        check.due("cost(0, 1)", x.cost(0, 1), 1);
+        check.due("cost(1, 2)", x.cost(1, 2), 0);
+        compile(check, x, "abcdefghijkl?", -1);
+        check.due("nodes()", x.nodes(), 24);
+        compile(check, x, "ab", -1);
+        check.due("nodes()", x.nodes(), 3);
+        check.due("cost(0, 2)", x.cost(0, 2), 0);
+        check.due("ends()", x.ends(), 1 << 2);
+    }
+
+    private static void tooLong(Check check) {
+        compile(check, new FuzzyFinder(), "abcdefghijkl*", -1);
+        compile(check, new FuzzyFinder(), "abcdefghijklm", -2);
+        compile(check, new FuzzyFinder(), "abcdefghijklm*", -2);
+        compile(check, new FuzzyFinder(), "a".repeat(40), -2);
+        compile(check, new FuzzyFinder(), "a" + "*".repeat(39), -2);
+        compile(check, new FuzzyFinder(), "a|".repeat(19) + "a", -2);
+        compile(check, new FuzzyFinder(), "a".repeat(37) + "<12", -2);
+        compile(check, new FuzzyFinder(), "a".repeat(30) + "((a|b))*", -2);
+        compile(check, new FuzzyFinder(), "a".repeat(34) + "[^ab]+", -2);
+        // Brackets are no nodes.
+        compile(check, new FuzzyFinder(), "((((((abcdefghijkl))))))?", -1);
+        compile(check, new FuzzyFinder(), "((((((abcdefghijkl?))))))?", -2);
+    }
+
+    private static void fault(Check check) {
+        compile(check, new FuzzyFinder(), "", 0);
+        compile(check, new FuzzyFinder(), ")", 0);
+        compile(check, new FuzzyFinder(), "a)", 1);
+        compile(check, new FuzzyFinder(), "(a", 2);
+        compile(check, new FuzzyFinder(), "abcdefghijk*)", 12);
+        compile(check, new FuzzyFinder(), "abcdefghijkl*)", 13);
+        compile(check, new FuzzyFinder(), "abcdefghijklm*)", 14);
+        compile(check, new FuzzyFinder(), "(abcdefghijklm*", 15);
+        compile(check, new FuzzyFinder(), "a".repeat(39) + "|", 40);
+        compile(check, new FuzzyFinder(), "a".repeat(39) + ")", 39);
+        compile(check, new FuzzyFinder(), "a".repeat(38) + ")a", 38);
+    }
+
+    private static void keptAfterFault(Check check) {
         FuzzyFinder x = Check.finder("a|b", "ab");
         x.find(true);
-        CHECK.due("a fault", Check.compile(x, "cc("), 3);
-        CHECK.due("nodes()", x.nodes(), 3);
-        CHECK.due("cost(0, 1)", x.cost(0, 1), 0);
-        CHECK.due("too long", Check.compile(x, "c".repeat(20)), -2);
-        CHECK.due("nodes()", x.nodes(), 3);
-        CHECK.due("cost(1, 2)", x.cost(1, 2), 0);
-        CHECK.due("from()", x.from(), 0);
-        CHECK.due("a new one", Check.compile(x, "c"), -1);
-        CHECK.due("nodes()", x.nodes(), 1);
-        CHECK.due("cost(1, 2)", x.cost(1, 2), 1);
-        CHECK.due("one as long", Check.compile(x, "b"), -1);
-        CHECK.due("cost(1, 2)", x.cost(1, 2), 0);
-
-        FuzzyFinder y = new FuzzyFinder();
-        CHECK.due("a fault", Check.compile(y, "c("), 2);
-        CHECK.due("too long", Check.compile(y, "c".repeat(20)), -2);
-        CHECK.due("nodes()", y.nodes(), 0);
-        CHECK.due("cost(0, 0)", y.cost(0, 0), -1);
+        for (String characters : new String[] {"", "cc(", "c)", "[c", "a|b|", "c*<"}) {
+            Check.compile(x, characters);
+            check.due("nodes() after " + characters, x.nodes(), 3);
+            check.due("cost(0, 1) after " + characters, x.cost(0, 1), 0);
+            check.due("cost(1, 2) after " + characters, x.cost(1, 2), 0);
+            check.due("from() after " + characters, x.from(), 0);
+            check.due("to() after " + characters, x.to(), 1);
+        }
+        Twins.same(check, "compile() of a<", Twins::usedAndCompiled, run -> run.compile("a<"));
+        Twins.same(check, "compile() of ccc)c", Twins::usedAndCompiled, run -> run.compile("ccc)c"));
+        Twins.same(check, "compile() of nothing", Twins::usedAndCompiled, Run::compile);
     }
 
-    private static void readsOnlyWhatIsNew() {
+    private static void keptAfterTooLong(Check check) {
+        FuzzyFinder x = Check.finder("a|b", "ab");
+        x.find(true);
+        for (String characters : new String[] {"abcdefghijklm", "c".repeat(40), "c" + "*".repeat(24)}) {
+            compile(check, x, characters, -2);
+            check.due("nodes() after " + characters, x.nodes(), 3);
+            check.due("cost(0, 1) after " + characters, x.cost(0, 1), 0);
+            check.due("cost(1, 2) after " + characters, x.cost(1, 2), 0);
+            check.due("from() after " + characters, x.from(), 0);
+            check.due("to() after " + characters, x.to(), 1);
+        }
+        Twins.same(check, "compile() of 25 nodes", Twins::usedAndCompiled, run -> run.compile("abcdefghijklm"));
+        Twins.same(check, "compile() of 39 nodes", Twins::usedAndCompiled, run -> run.compile("c".repeat(20)));
+    }
+
+    private static void noneToKeep(Check check) {
         FuzzyFinder x = new FuzzyFinder();
-        CHECK.due("compile() of a|", Check.compile(x, "a|"), 2);
-        CHECK.due("compile() of nothing", x.compile(), 0);
-        CHECK.due("compile() of b", Check.compile(x, "b"), -1);
-        CHECK.due("compile() of nothing", x.compile(), 0);
-        CHECK.due("nodes()", x.nodes(), 1);
-        CHECK.due("compile() of ((a", Check.compile(x, "((a"), 3);
-        CHECK.due("compile() of )", Check.compile(x, ")"), 0);
-        CHECK.due("compile() of a<", Check.compile(x, "a<"), 2);
-        CHECK.due("compile() of 1", Check.compile(x, "1"), 0);
-        CHECK.due("compile() of [^a", Check.compile(x, "[^a"), 3);
-        CHECK.due("compile() of [b]", Check.compile(x, "[b]"), -1);
-        Check.rewrite(x, "bc");
-        CHECK.due("[b] fits b", x.cost(0, 1), 0);
-        CHECK.due("[b] does not fit c", x.cost(1, 2), 1);
+        for (String characters : new String[] {"", "c(", "c".repeat(20), "abcdefghijklm"}) {
+            Check.compile(x, characters);
+            check.due("nodes() after " + characters, x.nodes(), 0);
+            check.due("cost(0, 0) after " + characters, x.cost(0, 0), -1);
+            check.due("find(true) after " + characters, x.find(true), -1);
+            check.due("ends() after " + characters, x.ends(), 0);
+        }
+        Twins.same(check, "compile() of c(", Twins::asNew, run -> run.compile("c("));
+        Twins.same(check, "compile() of 25 nodes", Twins::asNew, run -> run.compile("abcdefghijklm"));
     }
 }

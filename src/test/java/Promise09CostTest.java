@@ -1,162 +1,139 @@
-/** cost: each kind of expression on pieces, what is INFINITE, and what is no piece. */
+/** cost: of which pieces, and when it answers NONE. What costs how much is in TermsCostTest. */
 public final class Promise09CostTest {
-    private static final Check CHECK = new Check();
-
     public static void main(String[] args) {
-        atoms();
-        rows();
-        choices();
-        suffixes();
-        limits();
-        piecesInside();
-        noPieces();
-        CHECK.end();
+        Sentences told = new Sentences("promise 9");
+        told.test("The cost of the pattern on the piece [i, j)", Promise09CostTest::ofPieces);
+        told.test("NONE when it is INFINITE", Promise09CostTest::infinite);
+        told.test("NONE when there is no pattern", Promise09CostTest::noPattern);
+        told.test("NONE when there is no such piece: 0 <= i", Promise09CostTest::below);
+        told.test("NONE when there is no such piece: i <= j", Promise09CostTest::reversed);
+        told.test("NONE when there is no such piece: j <= length", Promise09CostTest::beyond);
+        told.test("a piece of no letters at each place", Promise09CostTest::emptyPieces);
+        told.test("of the text, weights and pattern that are there now", Promise09CostTest::asTheyAre);
+        told.test("changes nothing", Promise09CostTest::changesNothing);
+        told.end();
     }
 
-    /** The cost on the whole text, with weights added 2, missing 3, wrong 4. */
-    private static void cost(String expression, String text, int due) {
-        FuzzyFinder x = Check.finder(expression, text);
-        x.weights(2, 3, 4);
-        CHECK.due("cost of " + expression + " on " + text, x.cost(0, text.length()), due);
-    }
-
-    private static void atoms() {
-        cost("a", "", 3);
-        cost("a", "a", 0);
-        cost("a", "b", 4);
-        cost("a", "bcad", 6);
-        cost("a", "bcd", 8);
-        cost(".", "", 3);
-        cost(".", "z", 0);
-        cost(".", "zz", 2);
-        cost("[bc]", "b", 0);
-        cost("[bc]", "c", 0);
-        cost("[bc]", "a", 4);
-        cost("[bc]", "aac", 4);
-        cost("[^bc]", "b", 4);
-        cost("[^bc]", "a", 0);
-        cost("[^bc]", "z", 0);
-        cost("[^bc]", "bcb", 8);
-        cost("[^a]", "a", 4);
-        cost("[^abcdefghijklmnopqrstuvwxyz]", "q", 4);
-        cost("[a][b]", "aa", 4);
-        cost("[^a][b]", "bc", 4);
-        FuzzyFinder x = Check.finder("a", "bb");
-        x.weights(1, 1, 9);
-        CHECK.due("missing and added are less than wrong", x.cost(0, 2), 3);
-    }
-
-    private static void rows() {
-        cost("ab", "ab", 0);
-        cost("ab", "", 6);
-        cost("ab", "b", 3);
-        cost("ab", "axb", 2);
-        cost("ab", "xaby", 4);
-        cost("ab", "ba", 5);
-        cost("abc", "ac", 3);
-        cost("abcd", "axd", 7);
-        cost("a(bc)d", "abcd", 0);
-        cost("(ab)(cd)", "abxcd", 2);
-    }
-
-    private static void choices() {
-        cost("a|b", "b", 0);
-        cost("a|b", "c", 4);
-        cost("a|bc", "bc", 0);
-        cost("ab|cd|ef", "ef", 0);
-        cost("ab|cd|ef", "cd", 0);
-        cost("a(b|c)d", "acd", 0);
-        cost("a|b|cc", "", 3);
-    }
-
-    private static void suffixes() {
-        cost("a?", "", 0);
-        cost("a?", "a", 0);
-        cost("a?", "b", 2);
-        cost("a*", "", 0);
-        cost("a*", "aaa", 0);
-        cost("a*", "aba", 2);
-        cost("a*", "bb", 4);
-        cost("a+", "", 3);
-        cost("a+", "aa", 0);
-        cost("a+", "b", 4);
-        cost("a+", "bab", 4);
-        cost("(ab)*", "abab", 0);
-        cost("(ab)+", "abaxb", 2);
-        cost("(ab)+", "", 6);
-        cost("a*b*", "aabbb", 0);
-        cost("(a|b)*c", "ababc", 0);
-        cost("(a?)+", "", 0);
-        cost("a+?", "", 0);
-        cost("(a*b)+", "aabab", 0);
-        // Nothing but the whole piece may be left out at ADDED: not a part of it beside others.
-        cost("(a<0)*", "ab", 4);
-        cost("(a<0)*", "aa", 0);
-        cost("(a<0)+", "ab", -1);
-        cost("(ab<0)+", "abab", 0);
-        cost("((ab)<0)*", "abxab", 10);
-        cost("((ab)<0)+", "abxab", -1);
-        cost("((ab)<2)+", "abxab", 2);
-    }
-
-    private static void limits() {
-        cost("a<0", "a", 0);
-        cost("a<0", "b", -1);
-        cost("a<3", "b", -1);
-        cost("a<4", "b", 4);
-        cost("a<04", "b", 4);
-        cost("a<2", "", -1);
-        cost("a<3", "", 3);
-        cost("(abcdef)<17", "", -1);
-        cost("(abcdef)<18", "", 18);
-        cost("a<9<3", "b", -1);
-        cost("a<3|b", "c", 4);
-        cost("a<0b", "ab", 0);
-        cost("a<0b", "a", 3);
-        cost("a<0b", "b", -1);
-        cost("a<0?", "b", 2);
-        cost("a<0|b<0", "c", -1);
-        cost("(a<0)?b", "b", 0);
-        cost("a<99", "a", 0);
-        cost("aa<0", "b", -1);
-        cost("(ab)<0c", "abc", 0);
-        cost("(a|b<0)c", "xc", 4);
-    }
-
-    private static void piecesInside() {
-        FuzzyFinder x = Check.finder("ab", "bbbbbb");
-        CHECK.due("cost(4, 4)", x.cost(4, 4), 2);
-        Check.compile(x, "a?");
-        CHECK.due("a? on [4, 4)", x.cost(4, 4), 0);
-        x.weights(1, 2, 9);
-        CHECK.due("a? on [2, 5)", x.cost(2, 5), 3);
-        Check.compile(x, "a*");
-        CHECK.due("a* on [2, 5)", x.cost(2, 5), 3);
-        CHECK.due("a* on [6, 6)", x.cost(6, 6), 0);
-        Check.compile(x, "a+");
-        CHECK.due("a+ on [2, 5)", x.cost(2, 5), 5);
-        Check.compile(x, "a");
-        CHECK.due("a on [2, 5)", x.cost(2, 5), 5);
-        CHECK.due("a on [3, 3)", x.cost(3, 3), 2);
-        CHECK.due("a on [5, 6)", x.cost(5, 6), 3);
-    }
-
-    private static void noPieces() {
-        FuzzyFinder x = Check.finder("a", "aaa");
-        int[][] none = {
-            {-1, 0}, {-1, -1}, {0, 4}, {4, 4}, {2, 1}, {3, 2}, {0, -1}, {Integer.MIN_VALUE, 3},
-            {0, Integer.MAX_VALUE}, {Integer.MAX_VALUE, Integer.MAX_VALUE}, {1, 0}, {3, 4},
-            {Integer.MIN_VALUE, Integer.MIN_VALUE}, {0, 25}, {25, 25},
-        };
-        for (int[] piece : none) {
-            CHECK.due("cost(" + piece[0] + ", " + piece[1] + ")", x.cost(piece[0], piece[1]), -1);
+    private static void ofPieces(Check check) {
+        FuzzyFinder x = Check.finder("ab*c", "xabbcab");
+        check.due("cost(1, 5)", x.cost(1, 5), 0);
+        check.due("cost(0, 5)", x.cost(0, 5), 1);
+        check.due("cost(0, 0)", x.cost(0, 0), 2);
+        check.due("cost(1, 2)", x.cost(1, 2), 1);
+        check.due("cost(1, 4)", x.cost(1, 4), 1);
+        check.due("cost(2, 5)", x.cost(2, 5), 1);
+        check.due("cost(0, 7)", x.cost(0, 7), 3);
+        check.due("cost(7, 7)", x.cost(7, 7), 2);
+        for (int i = 0; i <= 24; i++) {
+            FuzzyFinder y = Check.finder("a", "b".repeat(Math.max(0, i - 1)) + "a".repeat(i == 0 ? 0 : 1)
+                + "b".repeat(24 - i));
+            for (int j = 0; j < 24; j++) {
+                check.due("a on letter " + j, y.cost(j, j + 1), j == i - 1 ? 0 : 1);
+            }
         }
-        CHECK.due("cost(3, 3)", x.cost(3, 3), 1);
-        CHECK.due("cost(0, 3)", x.cost(0, 3), 2);
-        CHECK.due("cost without a pattern", Check.finder("", "aaa").cost(0, 1), -1);
-        FuzzyFinder full = Check.finder(".", "a".repeat(24));
-        CHECK.due("cost(0, 24)", full.cost(0, 24), 23);
-        CHECK.due("cost(24, 24)", full.cost(24, 24), 1);
-        CHECK.due("cost(0, 25)", full.cost(0, 25), -1);
+    }
+
+    private static void infinite(Check check) {
+        FuzzyFinder x = Check.finder("a<0", "ab");
+        check.due("cost(0, 1)", x.cost(0, 1), 0);
+        check.due("cost(1, 2)", x.cost(1, 2), -1);
+        check.due("cost(0, 0)", x.cost(0, 0), -1);
+        check.due("cost(0, 2)", x.cost(0, 2), -1);
+        x.weights(0, 0, 1);
+        check.due("cost(0, 0)", x.cost(0, 0), 0);
+    }
+
+    private static void noPattern(Check check) {
+        FuzzyFinder x = Check.finder("", "aaa");
+        check.due("cost(0, 0)", x.cost(0, 0), -1);
+        check.due("cost(0, 1)", x.cost(0, 1), -1);
+        check.due("cost(0, 3)", x.cost(0, 3), -1);
+        check.due("cost(0, 4)", x.cost(0, 4), -1);
+        Check.compile(x, "a(");
+        check.due("cost(0, 1)", x.cost(0, 1), -1);
+        Check.compile(x, "a");
+        check.due("cost(0, 1)", x.cost(0, 1), 0);
+    }
+
+    private static void below(Check check) {
+        FuzzyFinder x = Check.finder(".", "aaa");
+        check.due("cost(0, 1)", x.cost(0, 1), 0);
+        check.due("cost(-1, 0)", x.cost(-1, 0), -1);
+        check.due("cost(-1, 1)", x.cost(-1, 1), -1);
+        check.due("cost(-1, -1)", x.cost(-1, -1), -1);
+        check.due("cost(-2, -1)", x.cost(-2, -1), -1);
+        check.due("cost(-1, 3)", x.cost(-1, 3), -1);
+        check.due("cost(MIN, 1)", x.cost(Integer.MIN_VALUE, 1), -1);
+        check.due("cost(MIN, MIN)", x.cost(Integer.MIN_VALUE, Integer.MIN_VALUE), -1);
+        check.due("cost(MIN, MAX)", x.cost(Integer.MIN_VALUE, Integer.MAX_VALUE), -1);
+    }
+
+    private static void reversed(Check check) {
+        FuzzyFinder x = Check.finder(".", "a".repeat(24));
+        for (int i = 0; i <= 24; i++) {
+            for (int j = Math.max(0, i - 2); j <= Math.min(24, i + 2); j++) {
+                check.due("cost(" + i + ", " + j + ")", x.cost(i, j), j < i ? -1 : Math.abs(j - i - 1));
+            }
+        }
+        check.due("cost(0, -1)", x.cost(0, -1), -1);
+        check.due("cost(24, 0)", x.cost(24, 0), -1);
+        check.due("cost(25, 24)", x.cost(25, 24), -1);
+        check.due("cost(1, MIN)", x.cost(1, Integer.MIN_VALUE), -1);
+        check.due("cost(MAX, 0)", x.cost(Integer.MAX_VALUE, 0), -1);
+    }
+
+    private static void beyond(Check check) {
+        FuzzyFinder x = Check.finder(".", "");
+        for (int length = 0; length <= 24; length++) {
+            check.due("cost(0, length)", x.cost(0, length), Math.abs(length - 1));
+            check.due("cost(0, length + 1)", x.cost(0, length + 1), -1);
+            check.due("cost(length, length)", x.cost(length, length), 1);
+            check.due("cost(length, length + 1)", x.cost(length, length + 1), -1);
+            check.due("cost(length + 1, length + 1)", x.cost(length + 1, length + 1), -1);
+            x.write('a');
+        }
+        check.due("cost(25, 25)", x.cost(25, 25), -1);
+        check.due("cost(0, MAX)", x.cost(0, Integer.MAX_VALUE), -1);
+        check.due("cost(MAX, MAX)", x.cost(Integer.MAX_VALUE, Integer.MAX_VALUE), -1);
+    }
+
+    private static void emptyPieces(Check check) {
+        FuzzyFinder x = Check.finder("ab", "a".repeat(24));
+        x.weights(2, 3, 4);
+        for (int i = -1; i <= 25; i++) {
+            check.due("cost(" + i + ", " + i + ")", x.cost(i, i), i >= 0 && i <= 24 ? 6 : -1);
+        }
+    }
+
+    private static void asTheyAre(Check check) {
+        FuzzyFinder x = Check.finder("a", "ab");
+        check.due("cost(1, 2)", x.cost(1, 2), 1);
+        x.weights(9, 9, 5);
+        check.due("cost(1, 2) with other weights", x.cost(1, 2), 5);
+        Check.compile(x, "b");
+        check.due("cost(1, 2) of another pattern", x.cost(1, 2), 0);
+        check.due("cost(0, 1) of another pattern", x.cost(0, 1), 5);
+        x.write('b');
+        check.due("cost(1, 2) of a longer text", x.cost(1, 2), 0);
+        check.due("cost(2, 3) of a longer text", x.cost(2, 3), 0);
+        check.due("cost(0, 3) of a longer text", x.cost(0, 3), 18);
+        Check.rewrite(x, "bac");
+        check.due("cost(0, 1) of another text", x.cost(0, 1), 0);
+        check.due("cost(1, 2) of another text", x.cost(1, 2), 5);
+    }
+
+    private static void changesNothing(Check check) {
+        for (int i = -1; i <= 3; i++) {
+            int from = i;
+            Twins.same(check, "cost(" + i + ", 2)", Twins::used, run -> run.cost(from, 2));
+            Twins.same(check, "cost(" + i + ", 25)", Twins::full, run -> run.cost(from, 25));
+            Twins.same(check, "cost(" + i + ", 0)", Twins::asNew, run -> run.cost(from, 0));
+        }
+        // What is asked of a text before it goes on is not what is due behind.
+        FuzzyFinder x = Check.finder("a*b", "");
+        for (int n = 0; n < 24; n++) {
+            check.due("cost(0, n)", x.cost(0, n), 1);
+            x.write('a');
+        }
     }
 }

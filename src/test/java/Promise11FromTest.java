@@ -1,55 +1,29 @@
-/** from: what the latest find found, and what makes it forgotten. */
+/** from: where the match of the latest find begins, and what makes it forgotten. */
 public final class Promise11FromTest {
     public static void main(String[] args) {
-        Check check = new Check();
-        check.due("from() of a new object", new FuzzyFinder().from(), -1);
-        FuzzyFinder x = Check.finder("b", "abc");
-        check.due("before a find", x.from(), -1);
-        x.find(true);
-        check.due("after a find", x.from(), 1);
-        keeping(check, x);
-        check.due("still", x.from(), 1);
-
-        x.write('d');
-        check.due("after write", x.from(), -1);
-        x.find(true);
-        x.weights(1, 1, 1);
-        check.due("after weights", x.from(), -1);
-        x.find(true);
-        x.bound(0);
-        check.due("after bound", x.from(), -1);
-        x.find(true);
-        Check.compile(x, "b");
-        check.due("after compile", x.from(), -1);
-        x.find(false);
-        check.due("after a find", x.from(), 1);
-        x.erase();
-        check.due("after erase", x.from(), -1);
-        x.find(true);
-        check.due("after a find in vain", x.from(), -1);
-        x.bound(1);
-        x.find(true);
-        check.due("the empty piece", x.from(), 0);
-        x.erase();
-        check.due("after erase of the empty text", x.from(), -1);
-        check.end();
+        Sentences told = new Sentences("promise 11");
+        told.test("The i of the match that the latest find found", Promise11FromTest::ofTheLatest);
+        new MatchSentences("from()", FuzzyFinder::from).tell(told);
+        told.end();
     }
 
-    /** Calls that do not touch the match. */
-    static void keeping(Check check, FuzzyFinder x) {
-        check.due("write refused", x.write('B'), false);
-        check.due("weights refused", x.weights(0, 0, 10), false);
-        check.due("bound refused", x.bound(1000), false);
-        check.due("compile with a fault", Check.compile(x, "a("), 2);
-        check.due("compile of nothing", x.compile(), 0);
-        check.due("compile of too many", Check.compile(x, "c".repeat(20)), -2);
-        x.add();
-        x.cost(0, 0);
-        x.ends();
-        x.nodes();
-        x.words();
-        x.distance(0, true);
-        x.near(3, true);
-        x.rank(0, true);
+    private static void ofTheLatest(Check check) {
+        FuzzyFinder x = Check.finder("b", "abc");
+        x.find(true);
+        check.due("from()", x.from(), 1);
+        Check.rewrite(x, "b" + "a".repeat(23));
+        x.find(true);
+        check.due("from() at the beginning", x.from(), 0);
+        Check.rewrite(x, "a".repeat(23) + "b");
+        x.find(true);
+        check.due("from() at the end", x.from(), 23);
+        x.bound(1);
+        x.find(false);
+        check.due("from() of find(false)", x.from(), 0);
+        x.find(true);
+        check.due("from() of find(true)", x.from(), 23);
+        Check.compile(x, "b?");
+        x.find(true);
+        check.due("from() of a match of no letters", x.from(), 0);
     }
 }
