@@ -29,11 +29,29 @@ public final class TermsCostTest {
         cost(check, expression, text, 2, 3, 4, due);
     }
 
+    /** Of a new object, and of one that was used; as the whole text, and as a piece at each place of one. */
     private static void cost(Check check, String expression, String text, int added, int missing, int wrong, int due) {
+        int length = text.length();
+        String call = "cost of " + expression + " on " + text + " with " + added + ", " + missing + ", " + wrong;
         FuzzyFinder x = Check.finder(expression, text);
         x.weights(added, missing, wrong);
-        String call = "cost of " + expression + " on " + text + " with " + added + ", " + missing + ", " + wrong;
-        check.due(call, x.cost(0, text.length()), due);
+        check.due(call, x.cost(0, length), due);
+
+        FuzzyFinder y = used();
+        Check.compile(y, expression);
+        y.weights(added, missing, wrong);
+        for (int place = 0; place + length <= 24; place += 6) {
+            Check.rewrite(y, "a".repeat(place) + text + "b".repeat(24 - place - length));
+            check.due(call + " at place " + place, y.cost(place, place + length), due);
+        }
+    }
+
+    /** Has worked out the costs of as many nodes on as many pieces as there can be; none of them is 0. */
+    private static FuzzyFinder used() {
+        FuzzyFinder x = Check.finder("abcdefghijkl+", "z".repeat(24));
+        x.weights(9, 9, 9);
+        x.ends();
+        return x;
     }
 
     private static void missing(Check check) {
